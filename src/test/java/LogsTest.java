@@ -89,11 +89,15 @@ public final class LogsTest {
         for (int log = 0; log < 8; log += 7) {
             RopeDrums x = new RopeDrums();
             due.is("rest, missing", x.rest(log, 0, 0), -11);
+            due.is("failed", x.failed(), 1);
             x.log(log, 3);
             for (int i : NO_PLACES) {
                 due.is("rest " + i, x.rest(log, i, 0), -12);
                 due.is("rest by " + i, x.rest(log, 0, i), -12);
+                due.is("failed", x.failed(), 2);
             }
+            due.is("count MISSING", x.count(1), 1);
+            due.is("count PLACE", x.count(2), 2 * NO_PLACES.length);
             due.is("by 0.0", x.rest(log, 0, 1), -15);
             double[][] rests = {{7.5, 2.0, 1.5}, {-7.5, 2.0, -1.5}, {-6.0, -2.0, -0.0},
                 {5.0, Double.NEGATIVE_INFINITY, 5.0}, {1e30, 3.0, log < 4 ? 1e30f % 3f : 1e30 % 3.0},

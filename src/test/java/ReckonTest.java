@@ -139,6 +139,10 @@ public final class ReckonTest {
         doubles(3, 0.0, ENDLESS, 0.0);
         doubles(3, -1.0, ENDLESS, -0.0);
         floats(2, 1e30f, 1e30f, Float.POSITIVE_INFINITY);
+        floats(1, 5.5f, 0.1f, 5.5f - 0.1f);
+        floats(1, 1f, Float.POSITIVE_INFINITY, Float.NEGATIVE_INFINITY);
+        doubles(1, 5.5, 0.1, 5.5 - 0.1);
+        doubles(0, 5.5, 0.1, 5.5 + 0.1);
         floats(3, -1f, 0f, Float.NEGATIVE_INFINITY);
         floats(0, Float.MAX_VALUE, Float.MAX_VALUE, Float.POSITIVE_INFINITY);
     }
@@ -215,6 +219,9 @@ public final class ReckonTest {
         compared(2, Due.f(-0.0f), 2, Due.f(0.0f), 0);
         compared(2, Due.f(-0.0f), 0, 0, 0);
         compared(0, -1, 0, 1, -1);
+        compared(0, 7, 0, 7, 0);
+        compared(0, -8, 1, -8, 0);
+        compared(1, Long.MIN_VALUE, 1, Long.MIN_VALUE, 0);
         compared(0, Integer.MIN_VALUE, 0, Integer.MAX_VALUE, -1);
         compared(1, Long.MAX_VALUE, 1, Long.MIN_VALUE, 1);
         compared(1, 4294967296L, 0, 0, 1);
