@@ -206,11 +206,9 @@ public final class RopeDrums {
         if (kept == null || held == null) {
             return UNKNOWN;
         }
-        if (kept.isMissing()) {
-            return fail(MISSING);
-        }
-        if (!kept.hasPlace(i)) {
-            return fail(PLACE);
+        int lack = kept.lackAt(i);
+        if (lack != 0) {
+            return fail(lack);
         }
         kept.row[i] = held.asReal(kept.lane);
         return succeed(1);
@@ -222,11 +220,9 @@ public final class RopeDrums {
         if (kept == null || held == null) {
             return UNKNOWN;
         }
-        if (kept.isMissing()) {
-            return fail(MISSING);
-        }
-        if (!kept.hasPlace(i)) {
-            return fail(PLACE);
+        int lack = kept.lackAt(i);
+        if (lack != 0) {
+            return fail(lack);
         }
         held.holdReal(kept.lane, kept.row[i]);
         return succeed(kept.lane);
@@ -237,11 +233,10 @@ public final class RopeDrums {
         if (kept == null) {
             return UNKNOWN;
         }
-        if (kept.isMissing()) {
-            return fail(MISSING);
-        }
-        if (!kept.hasPlace(i) || !kept.hasPlace(k)) {
-            return fail(PLACE);
+        // Of a missing log both lack the same; else the greater is the one that lacks a place.
+        int lack = Math.max(kept.lackAt(i), kept.lackAt(k));
+        if (lack != 0) {
+            return fail(lack);
         }
         if (isVoid(LEAVE, kept.row[i], kept.row[k])) {
             return fail(VOID);
@@ -264,13 +259,13 @@ public final class RopeDrums {
     }
 
     private int copyPlaces(Log from, Log to) {
-        if (from.isMissing()) {
+        if (from.size == NONE) {
             return fail(MISSING);
         }
         if (from.size == 0) {
             return succeed(0);
         }
-        if (to.isMissing()) {
+        if (to.size == NONE) {
             return fail(MISSING);
         }
         int came = Math.min(from.size, to.size);
@@ -290,12 +285,9 @@ public final class RopeDrums {
         if (kept == null) {
             return 0;
         }
-        if (kept.isMissing()) {
-            fail(MISSING);
-            return 0;
-        }
-        if (!kept.hasPlace(i)) {
-            fail(PLACE);
+        int lack = kept.lackAt(i);
+        if (lack != 0) {
+            fail(lack);
             return 0;
         }
         succeed(1);
@@ -337,11 +329,9 @@ public final class RopeDrums {
         if (filled == null || (coming == null && spool != NONE)) {
             return UNKNOWN;
         }
-        if (filled.isMissing()) {
-            return fail(MISSING);
-        }
-        if (!filled.hasPlace(i)) {
-            return fail(PLACE);
+        int lack = filled.lackAt(i);
+        if (lack != 0) {
+            return fail(lack);
         }
         if (coming != null && !coming.isReel && filled.reelsAlone) {
             return fail(MISFIT);
@@ -355,11 +345,9 @@ public final class RopeDrums {
         if (filled == null) {
             return UNKNOWN;
         }
-        if (filled.isMissing()) {
-            return fail(MISSING);
-        }
-        if (!filled.hasPlace(i)) {
-            return fail(PLACE);
+        int lack = filled.lackAt(i);
+        if (lack != 0) {
+            return fail(lack);
         }
         Spool there = filled.row[i];
         return succeed(there == null ? NONE : there.number);
@@ -370,11 +358,9 @@ public final class RopeDrums {
         if (filled == null) {
             return UNKNOWN;
         }
-        if (filled.isMissing()) {
-            return fail(MISSING);
-        }
-        if (!filled.hasPlace(i)) {
-            return fail(PLACE);
+        int lack = filled.lackAt(i);
+        if (lack != 0) {
+            return fail(lack);
         }
         Spool there = filled.row[i];
         // Where nothing is there is no spool that could be a misfit, so this may be asked first.
@@ -749,22 +735,28 @@ public final class RopeDrums {
         long turns = 0;
     }
 
-    /** One row for all its life, of which the first size places count: a new one costs nothing. */
-    private static final class Log {
+    /**
+     * How many places count, or NONE: it is missing. Whoever has places makes them once, as many as
+     * there may ever be, and uses them again: a new row costs nothing.
+     */
+    private abstract static class Places {
+        int size = NONE;
+
+        /** Why there is no place i: a failure, or 0. */
+        int lackAt(int i) {
+            if (size == NONE) {
+                return MISSING;
+            }
+            return i < 0 || i >= size ? PLACE : 0;
+        }
+    }
+
+    private static final class Log extends Places {
         final int lane;
         final double[] row = new double[LOG_PLACES];
-        int size = NONE;
 
         Log(int lane) {
             this.lane = lane;
-        }
-
-        boolean isMissing() {
-            return size == NONE;
-        }
-
-        boolean hasPlace(int i) {
-            return i >= 0 && i < size;
         }
     }
 
@@ -780,19 +772,9 @@ public final class RopeDrums {
         }
     }
 
-    /** Like a Log, one row for all its life. */
-    private static final class Rack {
+    private static final class Rack extends Places {
         final Spool[] row = new Spool[RACK_PLACES];
         boolean reelsAlone = false;
-        int size = NONE;
-
-        boolean isMissing() {
-            return size == NONE;
-        }
-
-        boolean hasPlace(int i) {
-            return i >= 0 && i < size;
-        }
 
         void clearRow() {
             for (int i = 0; i < RACK_PLACES; i++) {
