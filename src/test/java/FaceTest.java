@@ -67,6 +67,10 @@ public final class FaceTest {
             }
         }
         due.isTrue("the constants are " + constants, constants.toString().equals("[FULL, NONE, OUTSIDE, UNKNOWN]"));
+        due.is("NONE", RopeDrums.NONE, -1);
+        due.is("UNKNOWN", RopeDrums.UNKNOWN, -1001);
+        due.is("OUTSIDE", RopeDrums.OUTSIDE, -1002);
+        due.is("FULL", RopeDrums.FULL, -1003);
     }
 
     private static void inside() {
