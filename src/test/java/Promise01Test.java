@@ -32,6 +32,15 @@ public final class Promise01Test {
         }
     }
 
+    @Says("LOGS 0 .. 3 are of floats, 4 .. 7 of doubles:")
+    static void p01_logsAreOfFloatsOrOfDoublesFromTheFirst(Due due) {
+        RopeDrums x = new RopeDrums();
+        for (int log = 0; log < 8; log++) {
+            x.log(log, 1);
+            due.is("read " + log, x.read(log, 0, 0), log < 4 ? 2 : 3);
+        }
+    }
+
     @Says("RACKS 0 .. 4 are a row of places for SPOOLS (REELS, too), or for REELS alone, or MISSING (at first).")
     static void p01_racksAreMissingAtFirst(Due due) {
         RopeDrums x = new RopeDrums();

@@ -171,6 +171,12 @@ public final class Promise06Test {
         reals(due, 4, 0.0, -2.0, 0.0);
         reals(due, 4, -0.0, 2.0, -0.0);
         reals(due, 4, -0.0, -2.0, -0.0);
+        reals(due, 4, -0.0, Float.MIN_VALUE, -0.0);
+        reals(due, 4, 0.0, -Float.MIN_VALUE, 0.0);
+        for (double least : new double[] {Double.MIN_VALUE, Double.MIN_NORMAL, Double.MAX_VALUE}) {
+            doubles(due, 4, -0.0, least, -0.0);
+            doubles(due, 4, 0.0, -least, 0.0);
+        }
     }
 
     @Says("y endless and x not: x)")

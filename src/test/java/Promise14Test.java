@@ -67,7 +67,14 @@ public final class Promise14Test {
             left(due, log, 6.0, -2.0, 0.0);
             left(due, log, -0.0, 2.0, -0.0);
             left(due, log, 0.0, -2.0, 0.0);
+            left(due, log, -0.0, Float.MIN_VALUE, -0.0);
         }
+    }
+
+    @Says("what is left of it by place k:")
+    static void p14_minus0ByTheLeastDoubleStays(Due due) {
+        left(due, 4, -0.0, Double.MIN_VALUE, -0.0);
+        left(due, 4, -0.0, -Double.MIN_NORMAL, -0.0);
     }
 
     @Says("what is left of it by place k:")

@@ -5,8 +5,8 @@ public final class Promise17Test {
     }
 
     private static void fill(RopeDrums x) {
-        while (x.spool(3, true) >= 0) {
-            continue;
+        for (int i = x.count(0); i < 30; i++) {
+            x.spool(3, true);
         }
     }
 

@@ -65,6 +65,8 @@ public final class Promise23Test {
         pad(due, -2.0, 6.0, 0.0);
         pad(due, 2.0, -0.0, -0.0);
         pad(due, -2.0, 0.0, 0.0);
+        pad(due, Double.MIN_VALUE, -0.0, -0.0);
+        pad(due, -Double.MIN_NORMAL, -0.0, -0.0);
     }
 
     @Says("of a PAD what is left of v by GRIP;")
