@@ -23,6 +23,8 @@ public final class FaceTest {
     private static final List<String> LONGS = List.of("bits", "told", "whole");
     private static final Pattern BANNED =
             Pattern.compile("\\b(athrow|drem|frem|invokedynamic|monitorenter|Exception table)\\b");
+    private static final Pattern MAKERS = Pattern.compile("(public |private )?RopeDrums(\\$\\w+)?\\(.*\\);|static \\{\\};"
+            + "|private static RopeDrums\\$Form\\[\\] \\$values\\(\\);|public int spool\\(int, boolean\\);");
     private static final List<String> LIBRARY = List.of("java/lang/Object.\"<init>\"", "java/lang/Enum.\"<init>\"",
             "java/lang/Enum.valueOf", "java/lang/Math.max", "java/lang/Math.min", "java/lang/Math.abs",
             "java/util/Arrays.fill");
@@ -32,9 +34,9 @@ public final class FaceTest {
         inside();
         Path classes = Path.of(FaceTest.class.getProtectionDomain().getCodeSource().getLocation().toURI());
         code(classes);
-        if (args.length > 0) {
-            source(Files.readString(Path.of(args[0], "src", "main", "java", "RopeDrums.java")));
-        }
+        String program = Files.readString(Path.of(args[0], "src", "main", "java", "RopeDrums.java"));
+        source(program);
+        asTheDocumentWritesIt(program, Files.readString(Path.of(args[0], "..", "shared", "DOC.md")));
         due.end();
     }
 
@@ -102,6 +104,7 @@ public final class FaceTest {
             for (Path file : files.filter(FaceTest::isOfTheProgram).toList()) {
                 String text = told(file);
                 due.isTrue(file + " was read", text.contains("Code:"));
+                makesLittle(text);
                 Matcher banned = BANNED.matcher(text);
                 while (banned.find()) {
                     due.isTrue(file + " has no " + banned.group(), false);
@@ -110,6 +113,19 @@ public final class FaceTest {
                 while (called.find()) {
                     due.isTrue(called.group(1) + " may be called", LIBRARY.contains(called.group(1)));
                 }
+            }
+        }
+    }
+
+    /** All calls live in one room: a call makes nothing, but for spool(), of which 30 at most are kept. */
+    private static void makesLittle(String text) {
+        String method = "";
+        for (String line : text.split("\n")) {
+            if (line.matches(" {2}\\S.*;")) {
+                method = line.strip();
+            }
+            if (line.matches("\\s+\\d+: (new|newarray|anewarray|multianewarray)\\b.*")) {
+                due.isTrue(method + " may make something:" + line, MAKERS.matcher(method).matches());
             }
         }
     }
@@ -132,5 +148,21 @@ public final class FaceTest {
             String pattern = Character.isLetter(word.charAt(0)) ? "\\b" + Pattern.quote(word) : Pattern.quote(word);
             due.isTrue("no " + word, !Pattern.compile(pattern).matcher(code).find());
         }
+    }
+
+    /** To the letter, parameters' names too, and no public line beside it. */
+    private static void asTheDocumentWritesIt(String program, String document) {
+        int from = document.indexOf("```java\n");
+        int to = document.indexOf("```", from + 3);
+        due.isTrue("the document has the face", from >= 0 && to > from);
+        List<String> written = publicLines(document.substring(Math.max(from, 0), Math.max(to, 0)));
+        List<String> held = publicLines(program);
+        due.is("public lines", held.size(), written.size());
+        due.isTrue("the face is " + held + ", due is " + written, held.equals(written));
+    }
+
+    private static List<String> publicLines(String text) {
+        return text.lines().map(String::strip).filter(line -> line.startsWith("public "))
+                .map(line -> line.replaceAll("\\s*[;{]$", "")).toList();
     }
 }
